@@ -301,6 +301,7 @@ public final class Vortexpin {
             return !kindOne && strength >= boundOf(lower) ? MIXED : MEISSNER;
         }
 
+        // No sample is critical at 0: that is looked at here, and below, for the divisor's sake alone.
         private int boundOf(int whole) {
             int square = critical * critical;
             return square == 0 ? 0 : whole * (square - temperature * temperature) / square;
@@ -488,6 +489,7 @@ public final class Vortexpin {
             this.critical = critical;
         }
 
+        // No ring has an inductance of 0: that is looked at for the divisor's sake alone.
         int currentWith(int whole) {
             return inductance == 0 ? 0 : (1000 * whole - flux) / inductance;
         }
@@ -507,6 +509,7 @@ public final class Vortexpin {
         }
 
         int nearestNumber() {
+            // Rounded down, not toward 0: of two numbers as near, the greater one is meant below 0 too.
             return Math.floorDiv(flux + 500, 1000);
         }
     }
@@ -545,6 +548,7 @@ public final class Vortexpin {
 
         private void loseCurrent() {
             long before = stored();
+            // 15 more, to round its sixteenth part up.
             current -= (current + 15) / 16;
             long lost = before - stored();
             int normal = normalParts(0, PARTS);

@@ -77,6 +77,7 @@ public final class ClaimsTest {
         x.claim(30, 0, 3);
         x.claim(30, 0, 2);
         x.claim(30, 1, 4);
+        x.claim(30, 2, 4);
         x.point(20, 0, 0);
         x.claim(30, 0, 3);
         x.claim(30, 0, 4);
@@ -84,8 +85,9 @@ public final class ClaimsTest {
         Due.same("4 of 5 is enough", x.judge(1, 0), Vortexpin.UNTOLD);
         Due.same("3 of 5 is thin", x.judge(2, 0), Vortexpin.THIN);
         Due.same("4 of 5, without the first", x.judge(3, 0), Vortexpin.OPEN);
-        Due.same("4 of 6 is thin", x.judge(4, 0), Vortexpin.THIN);
-        Due.same("5 of 6", x.judge(5, 0), Vortexpin.UNTOLD);
+        Due.same("the last 3 of 5 are thin", x.judge(4, 0), Vortexpin.THIN);
+        Due.same("4 of 6 is thin", x.judge(5, 0), Vortexpin.THIN);
+        Due.same("5 of 6", x.judge(6, 0), Vortexpin.UNTOLD);
         for (int more = 0; more < 50; more++) {
             x.point(20, 0, 0);
         }

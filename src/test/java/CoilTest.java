@@ -77,6 +77,10 @@ public final class CoilTest {
         y.current(945);
         Due.same("4.95 is 4", y.ofCoil(NORMAL), 12);
         Due.same("doubt of 6 and 6", y.ofCoil(DOUBT), 0);
+        y.current(189);
+        y.heat(0, 67);
+        y.heat(1, 68);
+        Due.same("71 and 72 at 72.99", y.ofCoil(NORMAL), 1);
         y.current(1000);
         Due.same("at 1000 all are normal", y.ofCoil(NORMAL), 12);
     }
@@ -129,6 +133,11 @@ public final class CoilTest {
         y.heat(9, 40);
         Due.same("pass(1)", y.pass(1), 500);
         warmths(y, 4, 4, 9, 158, 9, 4, 4, 4, 9, 32, 9, 4);
+        Vortexpin z = new Vortexpin();
+        z.current(228);
+        z.heat(0, 68);
+        z.pass(1);
+        warmths(z, 85, 12);
     }
 
     private static void noPartAboveItsMost() {

@@ -45,15 +45,21 @@ final class Due {
 
     private static void refused(String call, Class<?> kind, Deed deed) {
         asked++;
-        Class<?> thrown = null;
         try {
             deed.run();
+            tell(call + " threw nothing, due is " + kind.getName());
         } catch (RuntimeException e) {
-            thrown = e.getClass();
+            if (e.getClass() != kind) {
+                tell(call + " threw " + e.getClass().getName() + ", due is " + kind.getName());
+            } else if (!thrownByProgram(e)) {
+                tell(call + " let the machine or its library throw " + kind.getName());
+            }
         }
-        if (thrown != kind) {
-            tell(call + " threw " + (thrown == null ? "nothing" : thrown.getName()) + ", due is " + kind.getName());
-        }
+    }
+
+    private static boolean thrownByProgram(RuntimeException e) {
+        StackTraceElement[] trace = e.getStackTrace();
+        return trace.length > 0 && trace[0].getClassName().startsWith("Vortexpin");
     }
 
     private static void tell(String line) {

@@ -188,12 +188,38 @@ public final class FilmTest {
             Due.same("no cell beside the corner draws it", x.step(), 0);
             Due.same("it stays at its corner", x.whirlAt(0), corner);
         }
+        int[][] toEdges = {{8, 0}, {15, 7}, {32, 40}, {39, 47}, {1, 0}, {41, 40}, {6, 7}, {46, 47}};
+        for (int[] e : toEdges) {
+            Vortexpin x = withWhirlAt(e[0]);
+            x.pin(e[1], 1);
+            Due.same("it goes to the edge", x.step(), 1);
+            Due.same("at the edge", x.whirlAt(0), e[1]);
+        }
+        cornersHaveTwoSides();
         Vortexpin right = withWhirlAt(15);
         right.pin(16, 50);
         Due.same("the row behind is not beside the last column", right.step(), 0);
         Vortexpin left = withWhirlAt(16);
         left.pin(15, 50);
         Due.same("the row ahead is not beside the first column", left.step(), 0);
+    }
+
+    /** A whirl in a corner, repelled from both cells beside it, would go anywhere else. */
+    private static void cornersHaveTwoSides() {
+        int[][] corners = {{0, 8, 1}, {7, 15, 6}, {40, 32, 41}, {47, 46, 39}};
+        for (int[] c : corners) {
+            Vortexpin x = new Vortexpin();
+            for (int k = 0; k < 3; k++) {
+                int goal = c[0] % 8 == 0 ? c[2 - k] : c[k];
+                lead(x, goal);
+                x.pin(goal, 50);
+            }
+            x.pin(c[0], 0);
+            Due.same("all stay", x.step(), 0);
+            for (int whirl = 0; whirl < 3; whirl++) {
+                Due.same("energy", x.energy(whirl), x.whirlAt(whirl) == c[0] ? 24 : -32);
+            }
+        }
     }
 
     private static void byNumbers() {
