@@ -5,9 +5,13 @@ public final class ClaimsTest {
         claimRefuses();
         claimsAreEight();
         thin();
+        thinByFewerThanFourFifths();
         openWithoutPairs();
+        openByTemperature();
         openByVoltages();
+        openBySomeTwo();
         houses();
+        housesAtTheBounds();
         judgeRefuses();
         firstVerdictCounts();
         Due.close();
@@ -94,6 +98,42 @@ public final class ClaimsTest {
         Due.same("4 of the 5 that there were then", x.judge(1, 0), Vortexpin.UNTOLD);
     }
 
+    /** Of 4, 12 and so on to 60 points: the fewest that are not thin, and 1 fewer. */
+    private static void thinByFewerThanFourFifths() {
+        Vortexpin x = new Vortexpin();
+        Vortexpin y = new Vortexpin();
+        for (int all = 1; all <= 60; all++) {
+            x.point(20, 0, 0);
+            y.point(20, 0, 0);
+            int enough = 0;
+            while (5 * enough < 4 * all) {
+                enough++;
+            }
+            if (all % 8 == 4) {
+                int number = y.claim(30, all - enough, all - 1);
+                Due.same("the last " + enough + " of " + all, y.judge(number, 0), Vortexpin.OPEN);
+                number = x.claim(30, 1, enough - 1);
+                Due.same("1 fewer of " + all, x.judge(number, 0), Vortexpin.THIN);
+            }
+        }
+    }
+
+    /** The temperature of a claim and of its two points. */
+    private static void openByTemperature() {
+        int[][] cases = {{1, 0, Vortexpin.UNTOLD}, {1, 1, Vortexpin.OPEN}, {1, 2, Vortexpin.OPEN}, {2, 1, Vortexpin.UNTOLD},
+            {300, 299, Vortexpin.UNTOLD}, {300, 300, Vortexpin.OPEN}, {300, 0, Vortexpin.UNTOLD}, {299, 300, Vortexpin.OPEN}};
+        for (int[] c : cases) {
+            int[] currents = {1, 1000};
+            for (int current : currents) {
+                Vortexpin x = new Vortexpin();
+                x.point(c[1], current, 0);
+                x.point(c[1], -current, 0);
+                x.claim(c[0], 0, 1);
+                Due.same("points at " + c[1] + ", claim of " + c[0], x.judge(0, 0), c[2]);
+            }
+        }
+    }
+
     private static void openWithoutPairs() {
         int[][] pairs = {
             {20, 5, 20, -5, Vortexpin.UNTOLD},
@@ -170,6 +210,29 @@ public final class ClaimsTest {
         Due.same("the last point counts", y.judge(0, 0), Vortexpin.OPEN);
     }
 
+    /** Of four points of one temperature and current, one is off: whichever it is, some two are too far apart. */
+    private static void openBySomeTwo() {
+        int[][] signs = {{1, 1, -1, -1}, {1, -1, 1, -1}, {1, -1, -1, 1}, {-1, 1, 1, -1}, {-1, 1, -1, 1}, {-1, -1, 1, 1}};
+        for (int[] s : signs) {
+            for (int off = 0; off <= 4; off++) {
+                Vortexpin x = new Vortexpin();
+                for (int point = 0; point < 4; point++) {
+                    x.point(20, 5 * s[point], point == off ? 105 : 100);
+                }
+                x.claim(30, 0, 3);
+                Due.same("above twice the noise", x.judge(0, 2), off < 4 ? Vortexpin.OPEN : Vortexpin.UNTOLD);
+                Due.same("at most twice the noise", x.judge(0, 3), Vortexpin.UNTOLD);
+            }
+        }
+        Vortexpin same = new Vortexpin();
+        same.point(20, 5, 100);
+        same.point(20, 5, 900);
+        same.point(20, -6, 100);
+        same.point(20, 6, 100);
+        same.claim(30, 0, 3);
+        Due.same("two of one sign are no such two", same.judge(0, 0), Vortexpin.UNTOLD);
+    }
+
     private static Vortexpin withClaim() {
         Vortexpin x = new Vortexpin();
         x.point(20, 5, 100);
@@ -211,6 +274,21 @@ public final class ClaimsTest {
             Due.unknown("repeats of none", () -> x.repeats(w[0], w[1], true));
         }
         Due.same("nothing was told", x.repeats(0, 0, false), 1);
+    }
+
+    /** Of 7 houses, how many did and how many did not. */
+    private static void housesAtTheBounds() {
+        for (int did = 0; did <= 7; did++) {
+            for (int not = 0; not + did <= 7; not++) {
+                Vortexpin x = withClaim();
+                for (int house = 0; house < did + not; house++) {
+                    int due = house < not ? 0 : house - not + 1;
+                    Due.same("repeats", x.repeats(0, 6 - house, house >= not), due);
+                }
+                int due = did < 2 ? Vortexpin.UNTOLD : not >= did ? Vortexpin.REFUSED : Vortexpin.PASSED;
+                Due.same(did + " did, " + not + " did not", x.judge(0, 0), due);
+            }
+        }
     }
 
     private static void judgeRefuses() {

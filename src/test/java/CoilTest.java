@@ -11,15 +11,21 @@ public final class CoilTest {
         currents();
         heats();
         normalParts();
+        normalFromTheBoundOn();
         warmthSpreads();
+        eighthsAndSixteenthsAreRounded();
         normalPartsAreWarmed();
+        squareIsRounded();
         noPartAboveItsMost();
         threePulsesInARow();
+        heatBetweenPulsesIsNoPulse();
         doubtOfBothSigns();
+        doubtOfTwoIsEnough();
         toldCurrentCountsAnew();
         dumps();
         sharesByNewCurrent();
         sixteenthParts();
+        noCurrentNoShare();
         refuses();
         Due.close();
     }
@@ -85,6 +91,28 @@ public final class CoilTest {
         Due.same("at 1000 all are normal", y.ofCoil(NORMAL), 12);
     }
 
+    /** A current, and the temperature from which a part is normal then. */
+    private static void normalFromTheBoundOn() {
+        int[][] bounds = {{0, 90}, {1, 89}, {11, 89}, {12, 88}, {100, 81}, {500, 45}, {900, 9}, {933, 6}, {934, 5}};
+        for (int[] b : bounds) {
+            for (int part = 0; part < 12; part++) {
+                Vortexpin x = new Vortexpin();
+                x.current(b[0]);
+                Due.same("all parts are cold", x.ofCoil(NORMAL), 0);
+                if (b[1] > 5) {
+                    x.heat(part, b[1] - 5);
+                    Due.same("1 below the bound at " + b[0], x.ofCoil(NORMAL), 0);
+                }
+                x.heat(part, 1);
+                Due.same("at the bound at " + b[0], x.ofCoil(NORMAL), 1);
+                Due.same("doubt, by its half", x.ofCoil(DOUBT), part < 6 ? 1 : -1);
+            }
+        }
+        Vortexpin x = new Vortexpin();
+        x.current(945);
+        Due.same("at 4 all are normal", x.ofCoil(NORMAL), 12);
+    }
+
     private static void warmths(Vortexpin x, int... want) {
         for (int part = 0; part < want.length; part++) {
             Due.same("warmth(" + part + ")", x.warmth(part), want[part]);
@@ -117,6 +145,54 @@ public final class CoilTest {
         }
         for (int part = 0; part < 12; part++) {
             Due.same("6 pulses are 6 times one", many.warmth(part), single.warmth(part));
+        }
+    }
+
+    /** What a part is above 4 and its neighbours, and what it and the one beside it have behind one pulse. */
+    private static void eighthsAndSixteenthsAreRounded() {
+        int[][] above = {{1, 1, 0}, {7, 7, 0}, {8, 6, 1}, {15, 13, 1}, {16, 11, 2}, {23, 18, 2}, {24, 17, 3}, {31, 24, 3}, {32, 22, 4}};
+        for (int[] a : above) {
+            for (int part = 1; part < 11; part++) {
+                Vortexpin x = new Vortexpin();
+                x.heat(part, a[0]);
+                x.pass(1);
+                Due.same("part " + part + " heated by " + a[0], x.warmth(part), 4 + a[1]);
+                Due.same("ahead of it", x.warmth(part - 1), 4 + a[2]);
+                Due.same("behind it", x.warmth(part + 1), 4 + a[2]);
+            }
+            Vortexpin ends = new Vortexpin();
+            ends.heat(0, a[0]);
+            ends.heat(11, a[0]);
+            ends.pass(1);
+            Due.same("the first part has one beside it", ends.warmth(0), 4 + a[1] + a[2]);
+            Due.same("the last part has one beside it", ends.warmth(11), 4 + a[1] + a[2]);
+            Due.same("beside the first", ends.warmth(1), 4 + a[2]);
+            Due.same("beside the last", ends.warmth(10), 4 + a[2]);
+        }
+        Vortexpin each = new Vortexpin();
+        each.heat(4, 12);
+        each.heat(6, 12);
+        each.pass(1);
+        Due.same("12 of each side, rounded by itself", each.warmth(5), 6);
+        Vortexpin apart = new Vortexpin();
+        apart.heat(5, 15);
+        apart.pass(1);
+        Due.same("15 to each side, and 15 of its own, rounded apart", apart.warmth(5), 17);
+    }
+
+    /** A current, and what a normal part gets of it. */
+    private static void squareIsRounded() {
+        int[][] squares = {{0, 0}, {1, 0}, {44, 0}, {45, 1}, {63, 1}, {64, 2}, {999, 499}, {1000, 500}};
+        for (int[] s : squares) {
+            Vortexpin x = new Vortexpin();
+            x.current(s[0]);
+            for (int part = 0; part < 12; part++) {
+                x.heat(part, 96);
+            }
+            x.pass(1);
+            for (int part = 0; part < 12; part++) {
+                Due.same("all parts at 100, current " + s[0], x.warmth(part), 94 + s[1]);
+            }
         }
     }
 
@@ -201,6 +277,31 @@ public final class CoilTest {
         Due.same("the pulse behind it", y.pass(1), 93);
     }
 
+    private static void heatBetweenPulsesIsNoPulse() {
+        Vortexpin x = withHot(1);
+        x.pass(1);
+        hot(x, 2);
+        Due.same("doubt of four", x.ofCoil(DOUBT), 3);
+        Due.same("not dumped by asking and heating", x.ofCoil(DUMPED), 0);
+        x.pass(1);
+        hot(x, 1);
+        Due.same("two pulses", x.ofCoil(DUMPED), 0);
+        x.pass(1);
+        Due.same("three pulses", x.ofCoil(DUMPED), 1);
+        Vortexpin even = withHot(1);
+        even.pass(1);
+        hot(even, 6);
+        hot(even, 7);
+        hot(even, 8);
+        Due.same("no doubt ahead of the pulse", even.ofCoil(DOUBT), 0);
+        hot(even, 2);
+        hot(even, 0);
+        hot(even, 3);
+        even.pass(2);
+        Due.same("doubt of 6 and 4", even.ofCoil(DOUBT), 2);
+        Due.same("the doubt counts at the ends of pulses", even.ofCoil(DUMPED), 1);
+    }
+
     private static void doubtOfBothSigns() {
         int[][] halves = {{2}, {9}};
         for (int[] half : halves) {
@@ -234,6 +335,28 @@ public final class CoilTest {
         edge.pass(3);
         Due.same("one in each half", edge.ofCoil(DOUBT), 0);
         Due.same("not dumped", edge.ofCoil(DUMPED), 0);
+    }
+
+    /** Parts kept at 204, normal from 90 on: those beside them stay below that. */
+    private static void doubtOfTwoIsEnough() {
+        int[][] cases = {{1, 4, 2, 1}, {7, 10, -2, 1}, {2, 9, 0, 0}, {4, 4, 1, 0}, {9, 9, -1, 0}};
+        for (int[] c : cases) {
+            Vortexpin x = new Vortexpin();
+            for (int pulse = 1; pulse <= 3; pulse++) {
+                Due.same("not dumped ahead of pulse " + pulse, x.ofCoil(DUMPED), 0);
+                keepWarm(x, c[0]);
+                keepWarm(x, c[1]);
+                x.pass(1);
+                Due.same("doubt of parts " + c[0] + " and " + c[1], x.ofCoil(DOUBT), c[2]);
+            }
+            Due.same("dumped for parts " + c[0] + " and " + c[1], x.ofCoil(DUMPED), c[3]);
+        }
+    }
+
+    private static void keepWarm(Vortexpin x, int part) {
+        if (x.warmth(part) < 204) {
+            x.heat(part, 204 - x.warmth(part));
+        }
     }
 
     private static void toldCurrentCountsAnew() {
@@ -322,6 +445,24 @@ public final class CoilTest {
         x.pass(3);
         Due.same("pass(50)", x.pass(50), 0);
         Due.same("the whole energy is shared", x.ofCoil(WIRE) + x.ofCoil(DUMP), 500000);
+    }
+
+    private static void noCurrentNoShare() {
+        Vortexpin x = withHot(1);
+        x.current(0);
+        Due.same("pass(3)", x.pass(3), 0);
+        Due.same("dumped at no current", x.ofCoil(DUMPED), 1);
+        Due.same("pass(1)", x.pass(1), 0);
+        Due.same("the wire got nothing", x.ofCoil(WIRE), 0);
+        Due.same("the dump got nothing", x.ofCoil(DUMP), 0);
+        Due.sameDouble("share of nothing", x.share(), 0.0);
+        Vortexpin cold = withHot(0, 1, 2);
+        cold.current(1);
+        Due.same("pass(3)", cold.pass(3), 1);
+        Due.same("the last of the current goes", cold.pass(1), 0);
+        long wire = cold.ofCoil(WIRE);
+        Due.same("its 50 are shared", wire + cold.ofCoil(DUMP), 50);
+        Due.sameDouble("share of 50", cold.share(), wire / 50.0);
     }
 
     private static void refuses() {

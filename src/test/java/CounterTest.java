@@ -2,9 +2,12 @@
 public final class CounterTest {
     public static void main(String[] args) {
         margins();
+        marginsOfOneWidth();
         races();
+        racesAtFive();
         refuses();
-        turns();
+        fiveHundredPulses();
+        turnsAt65536();
         bits();
         Due.close();
     }
@@ -30,6 +33,36 @@ public final class CounterTest {
         x.margins(0, 0);
         Due.same("pulse(1000, 0)", x.pulse(1000, 0), 13);
         Due.same("pulse(1000, 1)", x.pulse(1000, 1), 15);
+    }
+
+    /** Margins side by side, or one and the same: below, at, between, at, above. */
+    private static void marginsOfOneWidth() {
+        int[][] margins = {{300, 700}, {500, 501}, {500, 500}, {1, 999}, {0, 999}, {1, 1000}, {0, 1000}, {0, 0}, {1000, 1000}};
+        for (int[] m : margins) {
+            for (int bias = 0; bias <= 1000; bias++) {
+                if (bias > 2 && bias < 998 && Math.abs(bias - m[0]) > 1 && Math.abs(bias - m[1]) > 1) {
+                    continue;
+                }
+                Vortexpin x = new Vortexpin();
+                x.margins(m[0], m[1]);
+                int due = bias < m[0] ? 0 : bias > m[1] ? 2 : 1;
+                Due.same("margins " + m[0] + ", " + m[1] + ", bias " + bias, x.pulse(5, bias), due);
+            }
+        }
+    }
+
+    private static void racesAtFive() {
+        int[] biases = {0, 299, 300, 500, 700, 701, 1000};
+        int[] counted = {0, 0, 1, 1, 1, 2, 2};
+        for (int k = 0; k < biases.length; k++) {
+            Vortexpin x = new Vortexpin();
+            for (int behind = 1; behind < 5; behind++) {
+                Due.same("lost by a race at bias " + biases[k], x.pulse(behind, biases[k]), 0);
+            }
+            Due.same("5 behind the lost one at bias " + biases[k], x.pulse(5, biases[k]), counted[k]);
+            Due.same("4 behind the counted one at bias " + biases[k], x.pulse(4, biases[k]), counted[k]);
+            Due.same("1000 behind at bias " + biases[k], x.pulse(1000, biases[k]), 2 * counted[k]);
+        }
     }
 
     private static void races() {
@@ -62,8 +95,8 @@ public final class CounterTest {
         }
     }
 
-    /** 65536 pulses are far more than 512 calls; no bit but the low ones can be reached within the promise. */
-    private static void turns() {
+    /** As far as 512 calls come. */
+    private static void fiveHundredPulses() {
         Vortexpin x = new Vortexpin();
         int count = 0;
         for (int call = 0; call < 500; call++) {
@@ -73,6 +106,31 @@ public final class CounterTest {
         for (int bit = 0; bit < 12; bit++) {
             Due.same("bit " + bit + " of 1000", x.bit(bit), 1000 / (1 << bit) % 2);
         }
+    }
+
+    /**
+     * The document leaves free what an object answers behind its 512th call, and no fewer calls come to the turn:
+     * this sees to it that the program counts on as it is told, though nobody may ask for it.
+     */
+    private static void turnsAt65536() {
+        Vortexpin x = new Vortexpin();
+        for (int call = 0; call < 32767; call++) {
+            x.pulse(5, 1000);
+        }
+        Due.same("1 ahead of the turn", x.pulse(5, 500), 65535);
+        for (int bit = 0; bit < 16; bit++) {
+            Due.same("bit " + bit + " of 65535", x.bit(bit), 1);
+        }
+        Due.same("lost ahead of the turn", x.pulse(4, 500), 65535);
+        Due.same("2 more, behind the turn", x.pulse(5, 1000), 1);
+        for (int bit = 0; bit < 16; bit++) {
+            Due.same("bit " + bit + " of 1", x.bit(bit), bit == 0 ? 1 : 0);
+        }
+        Vortexpin even = new Vortexpin();
+        for (int call = 0; call < 32767; call++) {
+            even.pulse(5, 1000);
+        }
+        Due.same("2 more, to the turn itself", even.pulse(5, 1000), 0);
     }
 
     private static void bits() {

@@ -5,14 +5,22 @@ public final class FilmTest {
         driveRefuses();
         enterChooses();
         enterRefuses();
+        enterAtThePressure();
         energies();
         firstSideOfEqualOnes();
         goesToTheLeast();
         staysAtTheEdges();
         byNumbers();
         leaves();
+        leavesFromTheLastColumnAlone();
+        leavesBelowDriveAndHeat();
         creeps();
+        creepsAtMostAtTheHeat();
+        creepsToNoCellOffTheFilm();
+        creepsToNoTakenCell();
+        oneWhirlInACell();
         avalanches();
+        avalancheOfSixtySteps();
         asksOfWhirls();
         Due.close();
     }
@@ -120,6 +128,49 @@ public final class FilmTest {
         }
         Due.same("whirlAt(19)", x.whirlAt(19), Vortexpin.NONE);
         Due.unknown("whirlAt(20)", () -> x.whirlAt(20));
+    }
+
+    /** In the first column the drive does not count; the energy is at the pressure, then 1 above it. */
+    private static void enterAtThePressure() {
+        int[][] cases = {{0, 0}, {1, -1}, {50, -50}};
+        for (int drive = -9; drive <= 9; drive += 9) {
+            for (int[] c : cases) {
+                Vortexpin x = new Vortexpin();
+                x.drive(drive, 30);
+                x.pin(40, c[0]);
+                Due.same("1 above the pressure", x.enter(c[1] - 1), Vortexpin.NONE);
+                Due.same("at the pressure", x.enter(c[1]), 0);
+                Due.same("where it entered", x.whirlAt(0), c[0] == 0 ? 0 : 40);
+            }
+        }
+        Vortexpin x = new Vortexpin();
+        for (int whirl = 0; whirl < 5; whirl++) {
+            Due.same("enter(1000)", x.enter(1000), whirl);
+        }
+        int last = freeEntry(x, 5);
+        int energy = 0;
+        for (int whirl = 0; whirl < 5; whirl++) {
+            int rows = Math.abs(x.whirlAt(whirl) - last) / 8;
+            energy += rows == 1 ? 12 : rows == 2 ? 6 : rows == 3 ? 2 : 0;
+        }
+        Due.same("1 above the pressure, one cell free", x.enter(energy - 1), Vortexpin.NONE);
+        Due.same("at the pressure, one cell free", x.enter(energy), 5);
+        Due.same("in the one free cell", x.whirlAt(5), last);
+        Due.same("no cell is free, at the greatest pressure", x.enter(1000), Vortexpin.NONE);
+        Due.unknown("none has entered", () -> x.whirlAt(6));
+    }
+
+    private static int freeEntry(Vortexpin x, int whirls) {
+        for (int cell = 0; cell < 48; cell += 8) {
+            boolean free = true;
+            for (int whirl = 0; whirl < whirls; whirl++) {
+                free &= x.whirlAt(whirl) != cell;
+            }
+            if (free) {
+                return cell;
+            }
+        }
+        return Vortexpin.NONE;
     }
 
     private static void energies() {
@@ -286,6 +337,35 @@ public final class FilmTest {
         leftOnesCountNoMore();
     }
 
+    private static void leavesFromTheLastColumnAlone() {
+        int[][] ways = {{6, 1, 7}, {41, -1, 40}, {1, -9, 0}, {46, 9, 47}};
+        for (int[] w : ways) {
+            Vortexpin x = withWhirlAt(w[0]);
+            x.drive(w[1], 30);
+            Due.same("1 ahead of the last column it goes", x.step(), 1);
+            Due.same("to the last column", x.whirlAt(0), w[2]);
+            Due.same("from the last column it leaves", x.step(), 1);
+            Due.same("it has left", x.whirlAt(0), Vortexpin.NONE);
+        }
+    }
+
+    private static void leavesBelowDriveAndHeat() {
+        int[][] sums = {{9, 30}, {9, 0}, {1, 0}, {1, 30}, {5, 7}};
+        for (int[] s : sums) {
+            for (int sign = -1; sign < 2; sign += 2) {
+                int cell = sign > 0 ? 39 : 32;
+                Vortexpin x = withWhirlAt(cell);
+                x.drive(sign * s[0], s[1]);
+                x.pin(cell, s[0] + s[1]);
+                Due.same("a depth at drive and heat holds", x.step(), 0);
+                Due.same("it is still there", x.whirlAt(0), cell);
+                x.pin(cell, s[0] + s[1] - 1);
+                Due.same("a depth 1 below drive and heat does not", x.step(), 1);
+                Due.same("it is there no more", x.whirlAt(0), Vortexpin.NONE);
+            }
+        }
+    }
+
     private static void leftOnesCountNoMore() {
         Vortexpin x = new Vortexpin();
         x.pin(0, 5);
@@ -336,6 +416,109 @@ public final class FilmTest {
         Due.same("only the one ahead creeps, and the other behind it", taken.step(), 2);
         Due.same("the one ahead", taken.whirlAt(0), 21);
         Due.same("the one behind", taken.whirlAt(1), 20);
+    }
+
+    private static void creepsAtMostAtTheHeat() {
+        int[] heats = {0, 1, 29, 30};
+        for (int heat : heats) {
+            for (int drive = -1; drive < 2; drive += 2) {
+                Vortexpin x = withWhirlAt(19);
+                x.drive(drive, heat);
+                x.pin(19, heat + 2);
+                Due.same("1 above the heat it stays", x.step(), 0);
+                Due.same("where it was", x.whirlAt(0), 19);
+                x.pin(19, heat + 1);
+                Due.same("at the heat it creeps", x.step(), 1);
+                Due.same("by the drive", x.whirlAt(0), 19 + drive);
+            }
+        }
+    }
+
+    /** The cells that come next by number, behind the end of a row, draw a whirl that may not creep there. */
+    private static void creepsToNoCellOffTheFilm() {
+        int[][] ends = {{7, 8, 1}, {39, 40, 1}, {47, 40, 1}, {8, 7, -1}, {40, 39, -1}, {0, 7, -1}};
+        for (int[] e : ends) {
+            Vortexpin x = withWhirlAt(e[0]);
+            x.pin(e[0], 10);
+            x.pin(e[1], 50);
+            x.drive(e[2], 5);
+            Due.same("no cell there to creep to", x.step(), 0);
+            Due.same("it is at the end of its row", x.whirlAt(0), e[0]);
+        }
+    }
+
+    private static void creepsToNoTakenCell() {
+        int[] drives = {1, -1};
+        for (int drive : drives) {
+            Vortexpin x = new Vortexpin();
+            lead(x, 20);
+            x.pin(20, 50);
+            lead(x, 19);
+            x.pin(19, 50);
+            x.drive(drive, 11);
+            Due.same("both are held, one by the other", x.step(), 0);
+            Due.same("the first one", x.whirlAt(0), 20);
+            Due.same("the second one", x.whirlAt(1), 19);
+        }
+        Vortexpin ahead = new Vortexpin();
+        lead(ahead, 19);
+        ahead.pin(19, 50);
+        lead(ahead, 11);
+        Due.same("12 from the one below", ahead.energy(1), 12);
+        ahead.pin(11, 20);
+        ahead.pin(10, 25);
+        ahead.pin(12, 25);
+        Due.same("a taken cell of the least energy is not gone to", ahead.step(), 1);
+        Due.same("the first of the free ones is", ahead.whirlAt(1), 12);
+    }
+
+    private static void oneWhirlInACell() {
+        int[][] drives = {{0, 0}, {9, 30}, {-9, 30}, {1, 30}, {-1, 30}, {2, 12}};
+        for (int[] d : drives) {
+            Vortexpin x = new Vortexpin();
+            for (int cell = 0; cell < 48; cell++) {
+                x.pin(cell, 7 * cell % 51);
+            }
+            x.drive(d[0], d[1]);
+            int whirls = 0;
+            for (int turn = 0; turn < 9; turn++) {
+                while (whirls < 20 && x.enter(1000) != Vortexpin.NONE) {
+                    whirls++;
+                }
+                x.step();
+                apart(x, whirls);
+            }
+            x.avalanche();
+            apart(x, whirls);
+        }
+    }
+
+    private static void apart(Vortexpin x, int whirls) {
+        boolean[] taken = new boolean[48];
+        for (int whirl = 0; whirl < whirls; whirl++) {
+            int cell = x.whirlAt(whirl);
+            if (cell != Vortexpin.NONE) {
+                Due.same("another whirl in the cell of whirl " + whirl, taken[cell] ? 1 : 0, 0);
+                taken[cell] = true;
+            }
+        }
+    }
+
+    /** Two whirls that swing move twice a step; the one that runs out moves 8 times, the 60 steps go on. */
+    private static void avalancheOfSixtySteps() {
+        Vortexpin x = new Vortexpin();
+        lead(x, 3);
+        x.pin(3, 10);
+        lead(x, 43);
+        x.pin(43, 10);
+        x.drive(1, 30);
+        Due.same("both to and fro, 60 steps", x.avalanche(), 120);
+        Due.same("the first one, as 60 is even", x.whirlAt(0), 3);
+        Due.same("the second one, as 60 is even", x.whirlAt(1), 43);
+        lead(x, 24);
+        x.drive(1, 30);
+        Due.same("one more runs out and leaves", x.avalanche(), 128);
+        Due.same("it has left", x.whirlAt(2), Vortexpin.NONE);
     }
 
     private static void avalanches() {

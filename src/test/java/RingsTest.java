@@ -3,8 +3,12 @@ public final class RingsTest {
     public static void main(String[] args) {
         numbersAndRanges();
         slips();
+        slipsAboveTheCriticalCurrent();
         slipsOnlyForLess();
+        slipsAreCountedAsOne();
         warms();
+        warmsToTheGreaterOfTwo();
+        greatestFlux();
         refuses();
         Due.close();
     }
@@ -65,6 +69,32 @@ public final class RingsTest {
         state(y, 0, 1, -991, 1);
     }
 
+    /** An inductance, a critical current, the greatest flux that does not slip yet, by its current without its sign. */
+    private static void slipsAboveTheCriticalCurrent() {
+        int[][] rings = {{1, 1000, 1000}, {1, 600, 600}, {2, 1000, 2001}, {100, 50, 5099}, {100, 1000, 100099}, {10, 50, 509}};
+        for (int[] r : rings) {
+            for (int sign = -1; sign < 2; sign += 2) {
+                Vortexpin x = new Vortexpin();
+                x.ring(r[0], r[1]);
+                Due.same("at the critical current", x.flux(0, sign * r[2]), 0);
+                state(x, 0, 0, -sign * r[1], 0);
+                Due.same("above the critical current", x.flux(0, sign * (r[2] + 1)), sign);
+                state(x, 0, sign, sign * (1000 - r[2] - 1) / r[0], 1);
+            }
+        }
+    }
+
+    private static void slipsAreCountedAsOne() {
+        Vortexpin x = new Vortexpin();
+        x.ring(1, 50);
+        state(x, 0, 0, 0, 0);
+        Due.same("3 up", x.flux(0, 3000), 3);
+        Due.same("5 down", x.flux(0, -2000), -5);
+        Due.same("1 up", x.flux(0, -1000), 1);
+        Due.same("none", x.flux(0, -1000), 0);
+        state(x, 0, -1, 0, 9);
+    }
+
     private static void slipsOnlyForLess() {
         Vortexpin x = new Vortexpin();
         x.ring(1, 50);
@@ -109,6 +139,41 @@ public final class RingsTest {
         Due.same("warm(2)", x.warm(2), 1000);
         Due.same("slips without those by warming", x.ofRing(2, 2), 999);
         Due.same("flux from there", x.flux(2, 1000000 - 1010), -1);
+    }
+
+    private static void warmsToTheGreaterOfTwo() {
+        for (int number = -3; number <= 3; number++) {
+            Vortexpin x = new Vortexpin();
+            x.ring(100, 1000);
+            x.flux(0, 1000 * number - 501);
+            Due.same("1 below the half ahead of " + number, x.warm(0), number - 1);
+            x.flux(0, 1000 * number - 500);
+            Due.same("at the half ahead of " + number, x.warm(0), number);
+            x.flux(0, 1000 * number + 499);
+            Due.same("1 below the half behind " + number, x.warm(0), number);
+            x.flux(0, 1000 * number + 500);
+            Due.same("at the half behind " + number, x.warm(0), number + 1);
+            Due.same("warmed again, the same", x.warm(0), number + 1);
+            Due.same("no slips", x.ofRing(0, 2), 0);
+        }
+    }
+
+    private static void greatestFlux() {
+        int[] most = {1000000, -1000000};
+        for (int flux : most) {
+            Vortexpin x = new Vortexpin();
+            x.ring(1, 50);
+            x.ring(100, 1000);
+            x.ring(100, 1000);
+            Due.same("1000 slips", x.flux(0, flux), flux / 1000);
+            state(x, 0, flux / 1000, 0, 1000);
+            Due.same("900 slips", x.flux(1, flux), flux / 1000 - flux / 10000);
+            state(x, 1, flux / 1000 - flux / 10000, -flux / 1000, 900);
+            x.warm(1);
+            Due.same("warm", x.ofRing(1, 0), flux / 1000);
+            state(x, 1, flux / 1000, 0, 900);
+            Due.same("a ring beside it as before", x.ofRing(2, 1), 0);
+        }
     }
 
     private static void refuses() {

@@ -5,8 +5,10 @@ public final class SamplesTest {
         kindTwo();
         kindOne();
         boundsAreRounded();
+        leastAndGreatestSample();
         setRefuses();
         deep();
+        deepAtTheCriticalTemperature();
         Due.close();
     }
 
@@ -89,6 +91,29 @@ public final class SamplesTest {
         Due.same("no overflow, normal", x.set(3, 1, 999), Vortexpin.NORMAL);
     }
 
+    private static void leastAndGreatestSample() {
+        Vortexpin x = new Vortexpin();
+        x.sample(1, 1, 2);
+        x.sample(1, 1, 1);
+        x.sample(200, 1000, 1000);
+        x.sample(200, 999, 1000);
+        x.sample(200, 1000, 1);
+        Due.same("critical 1, field 0", x.set(0, 0, 0), Vortexpin.MEISSNER);
+        Due.same("critical 1, at the lower field 1", x.set(0, 0, 1), Vortexpin.MIXED);
+        Due.same("critical 1, at the upper field 2", x.set(0, 0, -2), Vortexpin.NORMAL);
+        Due.same("critical 1, at 1", x.set(0, 1, 0), Vortexpin.NORMAL);
+        Due.same("kind ONE of field 1, field 0", x.set(1, 0, 0), Vortexpin.MEISSNER);
+        Due.same("kind ONE of field 1, field -1", x.set(1, 0, -1), Vortexpin.NORMAL);
+        Due.same("kind ONE of field 1000, field 999", x.set(2, 0, 999), Vortexpin.MEISSNER);
+        Due.same("kind ONE of field 1000, field 1000", x.set(2, 0, 1000), Vortexpin.NORMAL);
+        Due.same("critical 200, at 199, bound 9, field 8", x.set(2, 199, -8), Vortexpin.MEISSNER);
+        Due.same("critical 200, at 199, bound 9, field 9", x.set(2, 199, -9), Vortexpin.NORMAL);
+        Due.same("critical 200, at 200", x.set(2, 200, 0), Vortexpin.NORMAL);
+        Due.same("lower 1 below the upper is TWO", x.set(3, 0, 999), Vortexpin.MIXED);
+        Due.same("lower above the upper is ONE", x.set(4, 0, 999), Vortexpin.MEISSNER);
+        Due.same("lower above the upper, at its bound", x.set(4, 0, 1000), Vortexpin.NORMAL);
+    }
+
     private static void setRefuses() {
         Vortexpin x = new Vortexpin();
         x.sample(100, 50, 200);
@@ -134,5 +159,22 @@ public final class SamplesTest {
         Due.unknown("deep(-1)", () -> x.deep(-1));
         Due.unknown("deep(3)", () -> x.deep(3));
         Due.unknown("deep(2147483647)", () -> x.deep(Integer.MAX_VALUE));
+    }
+
+    private static void deepAtTheCriticalTemperature() {
+        int[] criticals = {1, 2, 137, 200};
+        for (int critical : criticals) {
+            Vortexpin x = new Vortexpin();
+            x.sample(critical, 5, 5);
+            Due.sameDouble("a new sample is at 0", x.deep(0), 100.0);
+            x.set(0, critical - 1, 0);
+            double below = (double) (critical - 1) / (double) critical;
+            below = below * below;
+            Due.sameDouble("1 below " + critical, x.deep(0), 100.0 / (1.0 - below * below));
+            x.set(0, critical, 0);
+            Due.sameDouble("at " + critical, x.deep(0), 0.0);
+            x.set(0, critical + 1, 0);
+            Due.sameDouble("1 above " + critical, x.deep(0), 0.0);
+        }
     }
 }
