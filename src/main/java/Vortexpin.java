@@ -552,7 +552,9 @@ public final class Vortexpin {
             current -= (current + 15) / 16;
             long lost = before - stored();
             int normal = normalParts(0, PARTS);
-            long wire = lost * normal / (normal + 20);
+            int shares = normal + 20;
+            // Never 0, as a count is not below 0: that is looked at for the divisor's sake alone.
+            long wire = shares == 0 ? 0 : lost * normal / shares;
             toWire += wire;
             toDump += lost - wire;
         }
